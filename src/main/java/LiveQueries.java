@@ -349,9 +349,9 @@ public final class LiveQueries {
         private int group = NOTHING;
         private int sum = NOTHING;
 
+        /** A text with a fault may have left formulas here; kind and limit every query has. */
         void clear() {
             nodeCount = 0;
-            limit = 0;
             filter = NOTHING;
             sort = NOTHING;
             group = NOTHING;

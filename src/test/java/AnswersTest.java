@@ -14,6 +14,7 @@ public final class AnswersTest {
         differences();
         uses();
         usesOfWhatIsAbsent();
+        queryAfterFault();
         queryLater();
         checks.end();
     }
@@ -97,7 +98,7 @@ public final class AnswersTest {
         for (String missing : new String[] {"a/0", "a%0", "r.r.a", "r.r.r.i", "t[3]", "t[-1]", "r.t[1]", "-t[9]",
             "t[t[9]]", "0*(1/0)", "t[65536*65536]", "r.t[r.r.n]"}) {
             for (String query : new String[] {"0:1=1|X=1;;;;", "0:!X=1;;;;", "0:1=2&X=1;;;;", "0:;X;;;", "0:;;;X;",
-                "0:;;;;X"}) {
+                "0:;;;;X", "0:1=1|X=1;a;1;b;c"}) {
                 LiveQueries x = sample(1, 2, 3);
                 Checks.ask(x, query.replace("X", missing));
                 checks.due(query + " with " + missing, x.size(0, 1), 0);
@@ -354,6 +355,20 @@ public final class AnswersTest {
         hangs("0:;r.r.t[t[0]];;;", 1, 1, 0, 0);
         hangs("0:1/0=1;r.t[0];;;", 1, 1, 0, 0);
         hangs("0:;r.t[9];;;", 1, 1, 0, 0);
+    }
+
+    /** Nothing of a text with a fault goes into the next query. */
+    private static void queryAfterFault() {
+        LiveQueries x = sample(1, 2, 3);
+        checks.due("fault", Checks.ask(x, "0:a=9;b;1;c;a~"), -14);
+        checks.due("fault", Checks.ask(x, "0:;;;;"), 0);
+        checks.due("no FILTER is left", x.size(0, 1), 1);
+        checks.due("no SORT is left", x.key(0, 0), 0);
+        checks.due("no GROUP is left", x.group(0, 0, 0), 0);
+        checks.due("no SUM is left", x.group(0, 0, 2), 1);
+        x.object(0);
+        checks.due("no N is left", x.size(0, 0), 2);
+        checks.due("nothing is looked at", x.uses(0, 0), 0);
     }
 
     private static void queryLater() {

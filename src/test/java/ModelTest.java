@@ -111,8 +111,8 @@ public final class ModelTest {
     private String spoil(String text) {
         int p = random.nextInt(text.length() + 1);
         String some = pick("!", "-", "(", "{", "[", ")", "}", "]", "a", "r", "r.", "t", "t[", "5", "1234567890", ";",
-            "=", "&", "|", "+", "--------------", "((((((((((((", "t[t[t[t[t[t[t[t[t[t[t[", "!!!!!!!!!!!!!", "{{{{{{{{{{{",
-            "~", "99", ".");
+            "=", "&", "|", "+", "--------------", "((((((((((((", "t[t[t[t[t[t[t[t[t[t[t[", "!!!!!!!!!!!!!",
+            "{{{{{{{{{{{", "~", "99", ".");
         int end = chance(50) ? p : Math.min(text.length(), p + 1 + random.nextInt(3));
         String spoiled = chance(15) ? text.substring(0, p) : text.substring(0, p) + some + text.substring(end);
         return spoiled.length() > 80 ? spoiled.substring(0, 80) : spoiled;
