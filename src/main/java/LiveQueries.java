@@ -683,11 +683,14 @@ public final class LiveQueries {
         }
 
         private long workItem(int object, int placeNode, int n) {
-            // Without a place there is nothing in t to look at: then the row does not hang on the object.
-            if (object == NONE || !isNode(placeNode) || absent[placeNode]) {
+            if (object == NONE) {
                 return missing(n);
             }
+            // All is worked out, also what would not count any more: t is looked at even without a place in it.
             note(object);
+            if (!isNode(placeNode) || absent[placeNode]) {
+                return missing(n);
+            }
             long place = values[placeNode];
             return store.hasItem(object, place) ? store.itemOf(object, (int) place) : missing(n);
         }

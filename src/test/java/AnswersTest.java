@@ -14,6 +14,7 @@ public final class AnswersTest {
         differences();
         uses();
         usesOfWhatIsAbsent();
+        usesOfAbsentPlaceKept();
         queryAfterFault();
         queryLater();
         checks.end();
@@ -347,14 +348,54 @@ public final class AnswersTest {
         checks.due("P15 the others", x.uses(0, 2), 1);
     }
 
-    /** A reference leads to t, but there is no place to look at in it. */
+    /** All is worked out: t is looked at also where the place in it is ABSENT, or where it has no such place. */
     private static void usesOfWhatIsAbsent() {
-        hangs("0:;t[1/0];;;", 0, 0, 0, 0);
-        hangs("0:;r.t[1/0];;;", 1, 0, 0, 0);
+        hangs("0:;t[1/0];;;", 1, 0, 0, 0);
+        hangs("0:;t[1%0];;;", 1, 0, 0, 0);
+        hangs("0:;t[-(2+1/0)];;;", 1, 0, 0, 0);
+        hangs("0:1/0=t[1/0];;;;", 1, 0, 0, 0);
+        hangs("0:1=2&!t[1/0]=1;;;;", 1, 0, 0, 0);
+        hangs("0:;;;t[1/0];", 1, 0, 0, 0);
+        hangs("0:;;;;t[1/0]", 1, 0, 0, 0);
+        hangs("0:;r.t[1/0];;;", 1, 1, 0, 0);
+        hangs("0:r.r.t[1/0]=1;;;;", 1, 1, 1, 0);
+        hangs("0:;r.t[t[0]];;;", 1, 1, 0, 0);
         hangs("0:;r.t[r.t[0]];;;", 1, 1, 0, 0);
-        hangs("0:;r.r.t[t[0]];;;", 1, 1, 0, 0);
+        hangs("0:;r.r.t[t[0]];;;", 1, 1, 1, 0);
+        hangs("0:;r.r.t[1/a];;;", 1, 1, 1, 0);
+        hangs("0:;;;;r.r.r.t[r.t[1/0]]", 1, 1, 1, 1);
+        hangs("0:;;;r.r.t[r.r.r.r.a];", 1, 1, 1, 1);
+        hangs("0:;r.r.r.r.t[1/0];;;", 1, 1, 1, 1);
+        hangs("0:;a/0+1/0;;;", 1, 0, 0, 0);
         hangs("0:1/0=1;r.t[0];;;", 1, 1, 0, 0);
         hangs("0:;r.t[9];;;", 1, 1, 0, 0);
+        hangs("0:;r.t[-1];;;", 1, 1, 0, 0);
+    }
+
+    /** Only an OBJECT that is there is hung on, and that is told anew with each CHANGE. */
+    private static void usesOfAbsentPlaceKept() {
+        LiveQueries x = new LiveQueries();
+        x.object(0);
+        x.object(1);
+        x.object(1);
+        Checks.ask(x, "0:;r.t[1/a];;;");
+        checks.due("P15 r is none", x.uses(0, 1), 0);
+        x.refer(0, 1);
+        checks.due("P15 r leads to 1", x.uses(0, 1), 1);
+        checks.due("P15 but is not IN", x.size(0, 1), 0);
+        x.refer(0, 2);
+        checks.due("P15 not to 1 any more", x.uses(0, 1), 0);
+        checks.due("P15 r leads to 2", x.uses(0, 2), 1);
+        x.row(2, 2);
+        x.item(2, 1, 44);
+        checks.due("P15 the place is there", x.put(0, 0, 1), 1);
+        checks.due("P15 its key", x.key(0, 0), 44);
+        checks.due("P15 as before", x.uses(0, 2), 1);
+        checks.due("P15 ABSENT again", x.put(0, 0, 0), 1);
+        checks.due("P15 still on 2", x.uses(0, 2), 1);
+        x.drop(2);
+        checks.due("P15 2 is dropped", x.uses(0, 2), NONE);
+        checks.due("P15 its own r", x.uses(0, 0), 1);
     }
 
     /** Nothing of a text with a fault goes into the next query. */

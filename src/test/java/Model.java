@@ -454,10 +454,13 @@ final class Model {
                 place = x();
                 p++;
             }
-            if (thing == null || place == null) {
+            if (thing == null) {
                 return null;
             }
             row.hangs.add(thing.number);
+            if (place == null) {
+                return null;
+            }
             switch (c) {
                 case 'n': return (long) thing.row.length;
                 case 'i': return (long) thing.number;
