@@ -5,13 +5,30 @@ import java.util.function.LongSupplier;
 final class Checks {
     private int made = 0;
     private int wrong = 0;
+    private String sentence = "";
+
+    /** The sentence of the document by which the answers from here on are due. */
+    void says(String sentence) {
+        this.sentence = sentence + "\n    ";
+    }
 
     void due(String what, long got, long want) {
         made++;
         if (got != want) {
-            wrong++;
-            System.out.println(what + " answered " + got + ", due is " + want);
+            tellWrong(what + " answered " + got + ", due is " + want);
         }
+    }
+
+    void due(String what, String got, String want) {
+        made++;
+        if (!got.equals(want)) {
+            tellWrong(what + " answered " + got + ", due is " + want);
+        }
+    }
+
+    private void tellWrong(String text) {
+        wrong++;
+        System.out.println(sentence + text);
     }
 
     void due(String what, boolean got, boolean want) {
@@ -21,8 +38,7 @@ final class Checks {
     void dueMissing(String what, LongSupplier call) {
         made++;
         try {
-            System.out.println(what + " answered " + call.getAsLong() + ", due is NoSuchElementException");
-            wrong++;
+            tellWrong(what + " answered " + call.getAsLong() + ", due is NoSuchElementException");
         } catch (NoSuchElementException e) {
             return;
         }
@@ -31,8 +47,7 @@ final class Checks {
     void dueFull(String what, LongSupplier call) {
         made++;
         try {
-            System.out.println(what + " answered " + call.getAsLong() + ", due is IllegalStateException");
-            wrong++;
+            tellWrong(what + " answered " + call.getAsLong() + ", due is IllegalStateException");
         } catch (IllegalStateException e) {
             return;
         }

@@ -6,12 +6,15 @@ import java.util.function.LongSupplier;
 public final class ModelTest {
     private static final int RUNS = 600;
     private static final int CALLS = 512;
+    // A text that is typed in words of one character, and query().
+    private static final int CALLS_OF_A_TEXT = 81;
     private static final int TEXTS = 100000;
 
     private final Random random;
     private final LiveQueries x = new LiveQueries();
     private final Model model = new Model();
     private final StringBuilder log = new StringBuilder();
+    private int calls = 0;
     private int objects = 0;
     private int queries = 0;
 
@@ -23,13 +26,13 @@ public final class ModelTest {
         int answers = 0;
         for (int seed = 0; seed < RUNS; seed++) {
             ModelTest run = new ModelTest(seed);
-            for (int call = 0; call < CALLS; call++) {
+            while (run.calls < CALLS) {
                 if (!run.step()) {
                     System.out.println("run " + seed + ":\n" + run.log);
                     System.exit(1);
                 }
-                answers++;
             }
+            answers += run.calls;
         }
         System.out.println(answers + " answers as the model's, in " + RUNS + " runs");
         texts();
@@ -152,6 +155,7 @@ public final class ModelTest {
     }
 
     private boolean alike(String call, LongSupplier got, LongSupplier want) {
+        calls++;
         String mine = answer(got);
         String due = answer(want);
         log.append(call).append(" answered ").append(mine).append('\n');
@@ -201,7 +205,7 @@ public final class ModelTest {
                 return made;
             }, () -> model.object(kind));
         }
-        if (form < 12) {
+        if (form < 12 && calls + CALLS_OF_A_TEXT <= CALLS) {
             return chance(95) ? asked(text()) : typed(random.nextLong(), small(9));
         }
         return form < 60 ? change() : question();
